@@ -33,21 +33,20 @@ public final class LatestSets {
     private final Ring ring;
     private final Choices choices;
     private final Chance chance;
+    /** Null where none was kept; made once and written over. */
     private final Guild[] images;
-    private final boolean[] kept;
 
     public LatestSets() {
-        guild = new Guild();
+        // Parts that others use are made as locals: a constructor hands out nothing of its own.
+        Guild first = new Guild();
+        Board walker = new Board(first);
+        guild = first;
+        board = walker;
         pad = new Pad();
-        board = new Board(guild);
-        ring = new Ring(board);
-        choices = new Choices(board);
-        chance = new Chance(board);
+        ring = new Ring(walker);
+        choices = new Choices(walker);
+        chance = new Chance(walker);
         images = new Guild[IMAGES];
-        for (int n = 0; n < IMAGES; n++) {
-            images[n] = new Guild();
-        }
-        kept = new boolean[IMAGES];
     }
 
     // ---- 1 members, laws
@@ -249,8 +248,12 @@ public final class LatestSets {
         if (!within(n, 0, IMAGES - 1)) {
             return OUTSIDE;
         }
-        images[n].become(guild);
-        kept[n] = true;
+        Guild kept = images[n];
+        if (kept == null) {
+            kept = new Guild();
+            images[n] = kept;
+        }
+        kept.become(guild);
         return 1;
     }
 
@@ -258,10 +261,11 @@ public final class LatestSets {
         if (!within(n, 0, IMAGES - 1)) {
             return OUTSIDE;
         }
-        if (!kept[n]) {
+        Guild kept = images[n];
+        if (kept == null) {
             return STATE;
         }
-        guild.become(images[n]);
+        guild.become(kept);
         return 1;
     }
 
@@ -272,8 +276,11 @@ public final class LatestSets {
             case 2: return guild.fineEach;
             case 3: return guild.law.length;
             case 4: return guild.sights;
-            default: break;
+            default: return toldOfRows(what);
         }
+    }
+
+    private int toldOfRows(int what) {
         if (within(what, 10, 39)) {
             return guild.toldOfMember(what / 10 - 1, what % 10);
         }
@@ -295,7 +302,7 @@ public final class LatestSets {
         return Math.min(LAST_HOUR, Math.max(hour, early) + late);
     }
 
-    /** What of a law's signs is known: the text itself, with no fault in it. */
+    /** The text of a law, with no fault in it. */
     private static final class Law {
         final int[] signs = new int[LAW_SIGNS];
         int length;
@@ -628,7 +635,7 @@ public final class LatestSets {
 
     /** How late members would come of their own will. */
     private static final class Choices {
-        /** How late one may come in a week that is weighed for rest: 0 to 3, two bits a member. */
+        /** How late one may come in a week that is weighed for rest is 0 to 3: two bits a member. */
         private static final int REST_LATES = 4;
         private static final int REST_WAYS = 4096;
 
