@@ -10,6 +10,7 @@ public final class ChoicesTest {
         restsOfSix();
         restsRefuses();
         lawsThatComeToRest();
+        eachLawCanBeTheOne();
         lawsRefuses();
         whoMovesTheHour();
         moveRefuses();
@@ -175,6 +176,22 @@ public final class ChoicesTest {
         lawsAre(x, 12, 7, 12);
     }
 
+    /** Members who come at 5 at the earliest by no law but one. */
+    private static void eachLawCanBeTheOne() {
+        LatestSets x = new LatestSets();
+        int[][] early = {{20, 10, 0, 0}, {20, 20, 10, 10}};
+        int[][] late = {{0, 0, 0, 0}, {5, 5, 5, 0}};
+        int[] number = {17, 23};
+        for (int i = 0; i < 2; i++) {
+            for (int m = 0; m < 4; m++) {
+                x.member(m, 0, early[i][m]);
+                x.member(m, 1, late[i][m]);
+                x.member(m, 2, 5);
+            }
+            lawsAre(x, 0, number[i], 5);
+        }
+    }
+
     private static void lawsRefuses() {
         LatestSets x = new LatestSets();
         due.is("from 24", x.laws(24, 0), OUTSIDE);
@@ -203,11 +220,15 @@ public final class ChoicesTest {
         due.is("down in 4 weeks", x.move(12, 4, 0), 2);
         due.is("not in 3", x.move(12, 3, 2), NONE);
         due.is("up as told", x.move(12, 1, 14), 0);
+        due.is("the told hour itself is held by who is late", x.move(12, 1, 12), 0);
         due.is("not more than 2 a week", x.move(12, 1, 15), NONE);
         due.is("in two weeks", x.move(12, 2, 16), 0);
         x.member(3, 1, 4);
         due.is("two of them come in time", x.move(12, 1, 11), 10);
         due.is("one suffices not", x.move(12, 9, 9), 10);
+        x.member(1, 1, 0);
+        x.member(3, 1, 0);
+        due.is("the told hour or later: one must be late", x.move(12, 1, 12), 1);
         Due.law(x, "~h");
         due.is("none does by h", x.move(12, 2, 13), NONE);
         due.is("it turns by itself", x.move(12, 1, 11), 0);
