@@ -26,6 +26,8 @@ public final class LatestSets {
     private static final int MOST_SEED = 9999;
     private static final int TOLD_LAWS = 24;
     private static final int IMAGES = 2;
+    /** More than any hours off and fines together. */
+    private static final int MORE_THAN_ANY = 1000000;
 
     private final Guild guild;
     private final Pad pad;
@@ -610,7 +612,7 @@ public final class LatestSets {
 
         int bestToldLaw(int from) {
             int bestNumber = NONE;
-            int leastFar = Integer.MAX_VALUE;
+            int leastFar = MORE_THAN_ANY;
             for (int number = 0; number < TOLD_LAWS; number++) {
                 int rest = restUnder(number, from);
                 if (rest == NONE) {
@@ -673,7 +675,7 @@ public final class LatestSets {
         }
 
         private void weighHour(int member, int week, int hour) {
-            int least = Integer.MAX_VALUE;
+            int least = MORE_THAN_ANY;
             for (int late = 0; late <= MOST_LATE; late++) {
                 int next = nextIf(member, hour, late);
                 int all = costOf(member, next, late) + cost[week + 1][next];

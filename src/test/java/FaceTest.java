@@ -113,6 +113,13 @@ public final class FaceTest {
             due.holds("imports only Arrays: " + line,
                 !line.startsWith("import ") || line.equals("import java.util.Arrays;"));
         }
+        java.util.regex.Matcher used = java.util.regex.Pattern
+            .compile("\\b(Arrays|System|Math|Integer|Long|String|List)\\.(\\w+)").matcher(source);
+        List<String> library = Arrays.asList("Arrays.fill", "System.arraycopy", "Math.min", "Math.max", "Math.abs",
+            "Integer.bitCount");
+        while (used.find()) {
+            due.holds(used.group() + " stands in the library's list", library.contains(used.group()));
+        }
         int start = 0;
         int at = 0;
         for (String line : source.split("\n")) {

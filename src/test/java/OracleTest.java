@@ -6,6 +6,7 @@ public final class OracleTest {
     private long state;
     private LatestSets x;
     private Oracle o;
+    private int calls;
 
     private OracleTest(long seed) {
         state = seed;
@@ -43,6 +44,7 @@ public final class OracleTest {
     }
 
     private void same(String call, long got, long want) {
+        calls++;
         due.is(call, got, want);
     }
 
@@ -51,7 +53,8 @@ public final class OracleTest {
             int n = kind == 0 ? 6 : 1 + draw(5);
             same("members", x.members(n), o.members(n));
         }
-        for (int i = 1; i < 512; i++) {
+        // An object is used for at most 512 calls; a law takes at most 40 of them.
+        while (calls < 470) {
             int which = draw(100);
             if (which < 30) {
                 change(draw(100));

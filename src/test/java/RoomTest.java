@@ -8,10 +8,10 @@ public final class RoomTest {
         LatestSets x = new LatestSets();
         dearest(x);
         long before = taken();
-        for (int i = 0; i < 10; i++) {
+        for (int i = 0; i < 5; i++) {
             dearest(x);
         }
-        long each = (taken() - before) / 10;
+        long each = (taken() - before) / 5;
         due.holds("bytes for a round of all calls: " + each, each < 2000);
         before = taken();
         LatestSets[] many = new LatestSets[100];
