@@ -9,6 +9,8 @@ public final class EdgesOfChoicesTest {
         finesTogetherWithHours();
         theFirstByNumbers();
         theOthersAsTold();
+        eachWeekOfTheWay();
+        noneOfAllWaysIsLess();
         choiceRefusesAtItsEnds();
         restsFromZeroToThree();
         noneHasLess();
@@ -135,6 +137,123 @@ public final class EdgesOfChoicesTest {
         LatestSets y = one(1, 12);
         y.member(0, 1, 5);
         choiceIs(y, 0, 12, 0, 0, 0, 0, 0);
+    }
+
+    // "how LATE in the i-th WEEK": by the hour to which the weeks ahead of it, each by its own, have come.
+    private static void eachWeekOfTheWay() {
+        LatestSets x = one(1, 8);
+        Due.law(x, "-2l");
+        // 7 8 8 6 of 8: 1 and 2, and 10 fines.
+        choiceIs(x, 0, 4, 13, 5, 3, 2, 0);
+        LatestSets y = one(1, 21);
+        Due.law(y, "-3l");
+        // 19 20 20 17 of 21: 2, 1, 1 and 4, and 12 fines.
+        choiceIs(y, 0, 17, 20, 5, 4, 3, 0);
+        LatestSets z = one(0, 10);
+        Due.law(z, "~l");
+        // 14 9 10 10 of 10.
+        choiceIs(z, 0, 4, 5, 5, 0, 4, 3);
+        Due.law(z, "-2l");
+        z.member(0, 2, 13);
+        // 16 14 13 13 of 13; 9 12 13 13 of 13.
+        choiceIs(z, 0, 18, 4, 0, 0, 1, 2);
+        choiceIs(z, 0, 6, 5, 5, 5, 3, 2);
+        // In each week by how many are left: 4 8 7 6 of 16, and 20 fines; 9 9 11 7 of 7; 11 7 7 of 5.
+        LatestSets paying = one(2, 16);
+        Due.law(paying, "-1l");
+        choiceIs(paying, 0, 0, 59, 5, 5, 0, 0);
+        z.member(0, 2, 7);
+        Due.law(z, "~l");
+        choiceIs(z, 0, 14, 8, 0, 5, 3, 5);
+        z.member(0, 2, 5);
+        Due.law(z, "<l~l");
+        choiceIs(z, 0, 9, 10, 2, 5, 0);
+        // The same by each of three in turn, the others in time and glad of anything.
+        for (int m = 0; m < 3; m++) {
+            LatestSets three = new LatestSets();
+            three.members(3);
+            three.fine(0);
+            Due.law(three, "-2l");
+            three.member(m, 2, 13);
+            three.member((m + 1) % 3, 2, 1);
+            three.member((m + 2) % 3, 2, 22);
+            choiceIs(three, m, 18, 4, 0, 0, 1, 2);
+            choiceIs(three, m, 6, 5, 5, 5, 3, 2);
+        }
+    }
+
+    /** All ways of all weeks, walked by the hours that the face tells of each LATE: the first of the least is due. */
+    private static void noneOfAllWaysIsLess() {
+        String[] laws = {"l", "-2l", "~l", "/hl", "~/hm", "-3p", "/~lf", "<l~+1l", "-1l",
+            "~/hl", "-4l", "<l~l"};
+        for (int k = 0; k < laws.length; k++) {
+            LatestSets x = new LatestSets();
+            int n = 1 + k % 4;
+            int member = k % n;
+            x.members(n);
+            x.fine(k % 3);
+            for (int m = 0; m < n; m++) {
+                x.member(m, 0, (5 * m + k) % 11);
+                x.member(m, 1, (m + 2 * k) % 4);
+                x.member(m, 2, (9 + 4 * k + 7 * m) % 24);
+            }
+            Due.law(x, laws[k]);
+            int[][] next = nextByLate(x, member);
+            for (int from = k % 3; from <= 23; from += 6) {
+                for (int w = 1; w <= 4; w++) {
+                    leastOfAllWays(x, member, from, w, next);
+                }
+            }
+        }
+    }
+
+    private static int[][] nextByLate(LatestSets x, int member) {
+        int[][] next = new int[6][24];
+        int told = x.told(20 + member);
+        for (int late = 0; late <= 5; late++) {
+            x.member(member, 1, late);
+            for (int h = 0; h <= 23; h++) {
+                next[late][h] = x.hour(h, 1);
+            }
+        }
+        x.member(member, 1, told);
+        return next;
+    }
+
+    private static void leastOfAllWays(LatestSets x, int member, int from, int w, int[][] next) {
+        int best = x.told(30 + member);
+        int fine = x.told(2);
+        int least = Integer.MAX_VALUE;
+        int[] first = null;
+        int ways = 1;
+        for (int i = 0; i < w; i++) {
+            ways *= 6;
+        }
+        for (int way = 0; way < ways; way++) {
+            int[] lates = weeksOf(way, w);
+            int hour = from;
+            int cost = 0;
+            for (int late : lates) {
+                hour = next[late][hour];
+                cost += Math.abs(hour - best) + fine * late;
+            }
+            if (cost < least) {
+                least = cost;
+                first = lates;
+            }
+        }
+        choiceIs(x, member, from, least, first);
+    }
+
+    /** Rising with the way: the first week's LATE counts most. */
+    private static int[] weeksOf(int way, int w) {
+        int[] lates = new int[w];
+        int left = way;
+        for (int i = w - 1; i >= 0; i--) {
+            lates[i] = left % 6;
+            left /= 6;
+        }
+        return lates;
     }
 
     // "UNKNOWN; OUTSIDE: the HOUR, w, i." with "i 0 to w less 1" and "i = -1"

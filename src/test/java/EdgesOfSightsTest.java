@@ -15,6 +15,7 @@ public final class EdgesOfSightsTest {
         couldRefusesAtItsEnds();
         lowestTermsOfOneWeek();
         lowestTermsOfManyWeeks();
+        fromEachHourThroughTheWeeks();
         allEarlyAreLaterIn();
         earlyIsTwentyThreeAtMost();
         rainRefusesAtItsEnds();
@@ -220,6 +221,34 @@ public final class EdgesOfSightsTest {
         for (int h = 0; h <= 23; h++) {
             rainIs(y, of(h, 0, 5, 9), h, 1);
         }
+    }
+
+    // "the mean HOUR of week w": whatever the hour in the weeks ahead of it, 0 and 23 too.
+    private static void fromEachHourThroughTheWeeks() {
+        LatestSets x = new LatestSets();
+        Due.law(x, "h");
+        for (int h = 0; h <= 23; h++) {
+            rainIs(x, of(h, 1, 3, 9), h, 1);
+            rainIs(x, of(h, 8, 3, 9), h, 1);
+        }
+        // 14, or 23 in rain, and 23 for good.
+        LatestSets y = alone(14, 0);
+        long all = 10;
+        long dry = 7;
+        for (int w = 1; w <= 8; w++) {
+            rainIs(y, of(0, w, 3, 9), 23 * all - 9 * dry, all);
+            rainIs(y, of(23, w, 3, 9), 23, 1);
+            all *= 10;
+            dry *= 7;
+        }
+        // 23 and 0 in turn, but 14 of 0 in rain; 9 of 14 in either weather.
+        LatestSets z = alone(0, 0);
+        Due.law(z, "~l");
+        rainIs(z, of(0, 1, 5, 9), 37, 2);
+        rainIs(z, of(0, 2, 5, 9), 9, 2);
+        rainIs(z, of(23, 1, 5, 9), 0, 1);
+        rainIs(z, of(23, 2, 5, 9), 37, 2);
+        rainIs(z, of(23, 3, 5, 9), 9, 2);
     }
 
     // "in each WEEK with t tenths it rains, all EARLY are then later by r"

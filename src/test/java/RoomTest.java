@@ -20,7 +20,21 @@ public final class RoomTest {
         }
         each = (taken() - before) / many.length;
         due.holds("bytes for an object: " + each, each < 32000);
+        imagesAreMadeOnce(x);
         due.end();
+    }
+
+    /** What is kept again is written over what was kept. */
+    private static void imagesAreMadeOnce(LatestSets x) {
+        x.image(0);
+        x.image(1);
+        long before = taken();
+        for (int i = 0; i < 100; i++) {
+            x.image(i % 2);
+            x.restore(1 - i % 2);
+        }
+        long all = taken() - before;
+        due.holds("bytes for 100 images: " + all, all < 2000);
     }
 
     private static long taken() {
